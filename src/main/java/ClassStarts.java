@@ -599,7 +599,7 @@ public final class ClassStarts {
                     act.other.change(act.c, kind.valueOf(act.a));
                     return NONE;
                 case Act.DIV:
-                    return divide(kind, act);
+                    return divide(kind, act.a, readOther(kind, act));
                 case Act.ROW:
                     return makeRow(kind, kind.valueOf(act.a));
                 case Act.IN:
@@ -630,12 +630,11 @@ public final class ClassStarts {
             return other.valueOf(act.c);
         }
 
-        private int divide(Kind kind, Act act) {
-            int divisor = readOther(kind, act);
+        private int divide(Kind kind, int f, int divisor) {
             if (divisor == 0) {
                 return raise(BY_ZERO);
             }
-            kind.change(act.a, kind.valueOf(act.a) / divisor);
+            kind.change(f, kind.valueOf(f) / divisor);
             return NONE;
         }
 

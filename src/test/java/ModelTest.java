@@ -6,8 +6,13 @@ import java.util.Set;
 
 /** Made-up runs of calls, always the same ones, on ClassStarts and on a second program written another way. */
 public final class ModelTest {
-    private static final int OBJECTS = 6000, CALLS = 200;
+    private static final int OBJECTS = 2000, CALLS = 180;
+    private static final int[] ROUGH = {0, 0, 1, 1, 2, 3, 4, 5, 6, 7, 7, 7, 8, 8, 9, 10, 11, 11, 11, 12};
+    /** Few that throw: these runs go deep, and on to the 81st ACT. */
+    private static final int[] GENTLE = {0, 1, 1, 2, 7, 7, 7, 7, 7, 7, 8, 10, 10, 11, 11};
+    private static final List<int[]> QUESTIONS = Model.everyQuestion();
     private static int wrong = 0;
+    private static int[] often = ROUGH;
 
     public static void main(String[] args) {
         for (int seed = 0; seed < OBJECTS && wrong < 5; seed++) {
@@ -26,6 +31,7 @@ public final class ModelTest {
         int wild = random.nextInt(4) == 0 ? 6 : 60;
         int kinds = 2 + random.nextInt(11);
         int setUp = 15 + random.nextInt(130);
+        often = seed % 2 == 0 ? ROUGH : GENTLE;
         for (int i = 0; i < CALLS; i++) {
             int[] call = i < setUp ? building(random, wild, kinds, model) : asking(random, wild, kinds, model);
             int got = made(x, call);
@@ -43,7 +49,7 @@ public final class ModelTest {
     }
 
     private static void compareAll(int seed, int call, ClassStarts x, Model model) {
-        for (int[] ask : Model.everyQuestion()) {
+        for (int[] ask : QUESTIONS) {
             int got = made(x, ask);
             int want = model.answer(ask);
             if (got != want) {
@@ -81,7 +87,6 @@ public final class ModelTest {
     }
 
     private static int[] anAct(Random random, int wild, int last) {
-        int[] often = {0, 0, 1, 1, 2, 3, 4, 5, 6, 7, 7, 7, 8, 8, 9, 10, 11, 11, 11, 12};
         int sort = random.nextInt(wild) == 0 ? some(random, 2, -1, 13) : often[random.nextInt(often.length)];
         int x = some(random, wild, 0, last);
         int method = some(random, wild, 0, 3);
@@ -93,7 +98,8 @@ public final class ModelTest {
             case 7: return new int[] {4, x, method, sort, other, some(random, wild, 1, 3), c};
             case 8: return new int[] {4, x, method, sort, other, field, c};
             case 9: return new int[] {4, x, method, sort, some(random, wild, 0, 2), field, c};
-            case 11: return new int[] {4, x, method, sort, some(random, wild, 1, 5), some(random, wild, -1, 9), c};
+            case 11: return new int[] {4, x, method, sort, some(random, wild, 1, 5),
+                random.nextInt(3) == 0 ? -1 : some(random, wild, -1, 9), c};
             case 4: case 5: case 6: return new int[] {4, x, method, sort, field, some(random, wild, 0, 3), c};
             default: return new int[] {4, x, method, sort, field, other, c};
         }
@@ -102,7 +108,7 @@ public final class ModelTest {
     private static int[] asking(Random random, int wild, int kinds, Model model) {
         int last = Math.max(0, model.kinds.size() - 1);
         int sort = random.nextInt(10);
-        if (sort < 5) {
+        if (sort < 4) {
             return new int[] {5, some(random, wild, 0, last), some(random, wild, 1, 3)};
         }
         if (sort < 6) {
