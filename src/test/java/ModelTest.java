@@ -1,4 +1,5 @@
 import java.util.ArrayList;
+import java.util.Arrays;
 import java.util.HashSet;
 import java.util.List;
 import java.util.Random;
@@ -6,7 +7,7 @@ import java.util.Set;
 
 /** Made-up runs of calls, always the same ones, on ClassStarts and on a second program written another way. */
 public final class ModelTest {
-    private static final int OBJECTS = 2000, CALLS = 180;
+    private static final int OBJECTS = 12000, CALLS = 180, ASKED = 12, MOST_CALLS = 512, MOST_WRONG = 5;
     private static final int[] ROUGH = {0, 0, 1, 1, 2, 3, 4, 5, 6, 7, 7, 7, 8, 8, 9, 10, 11, 11, 11, 12};
     /** Few that throw: these runs go deep, and on to the 81st ACT. */
     private static final int[] GENTLE = {0, 1, 1, 2, 7, 7, 7, 7, 7, 7, 8, 10, 10, 11, 11};
@@ -15,7 +16,7 @@ public final class ModelTest {
     private static int[] often = ROUGH;
 
     public static void main(String[] args) {
-        for (int seed = 0; seed < OBJECTS && wrong < 5; seed++) {
+        for (int seed = 0; seed < OBJECTS && wrong < MOST_WRONG; seed++) {
             oneObject(seed);
         }
         System.out.println(wrong == 0 ? "all answers are as due" : "some answers are not as due");
@@ -26,37 +27,61 @@ public final class ModelTest {
 
     private static void oneObject(int seed) {
         Random random = new Random(seed);
-        ClassStarts x = new ClassStarts();
-        Model model = new Model();
+        Pair pair = new Pair(seed);
+        Model model = pair.model;
         int wild = random.nextInt(4) == 0 ? 6 : 60;
         int kinds = 2 + random.nextInt(11);
         int setUp = 15 + random.nextInt(130);
         often = seed % 2 == 0 ? ROUGH : GENTLE;
         for (int i = 0; i < CALLS; i++) {
             int[] call = i < setUp ? building(random, wild, kinds, model) : asking(random, wild, kinds, model);
+            pair.compare(call);
+            for (int n = 0; call[0] == 5 && n < ASKED; n++) {
+                pair.compare(random.nextBoolean() ? QUESTIONS.get(random.nextInt(QUESTIONS.size()))
+                    : ofTheLatestRun(random, model));
+            }
+        }
+        while (pair.calls < MOST_CALLS) {
+            pair.compare(QUESTIONS.get(random.nextInt(QUESTIONS.size())));
+        }
+    }
+
+    /** A question that most likely has another answer than 0. */
+    private static int[] ofTheLatestRun(Random random, Model model) {
+        int kind = random.nextInt(model.kinds.size());
+        switch (random.nextInt(5)) {
+            case 0: return new int[] {6};
+            case 1: return new int[] {7, random.nextInt(4)};
+            case 2: return new int[] {8, random.nextInt(model.events.size() + 1), random.nextInt(2)};
+            case 3: return new int[] {10, kind, random.nextInt(4)};
+            default: return random.nextBoolean() ? new int[] {9, kind} : new int[] {11, kind};
+        }
+    }
+
+    /** One object and its model, asked the same within the calls that an object is used for. */
+    private static final class Pair {
+        final ClassStarts x = new ClassStarts();
+        final Model model = new Model();
+        private final int seed;
+        int calls = 0;
+
+        Pair(int seed) {
+            this.seed = seed;
+        }
+
+        void compare(int[] call) {
+            if (calls == MOST_CALLS || wrong >= MOST_WRONG) {
+                calls = MOST_CALLS;
+                return;
+            }
+            calls++;
             int got = made(x, call);
             int want = model.answer(call);
             if (got != want) {
                 wrong++;
-                System.out.println("object " + seed + ", call " + i + " " + java.util.Arrays.toString(call)
-                    + " answered " + got + ", due is " + want);
-                return;
-            }
-            if (call[0] == 5) {
-                compareAll(seed, i, x, model);
-            }
-        }
-    }
-
-    private static void compareAll(int seed, int call, ClassStarts x, Model model) {
-        for (int[] ask : QUESTIONS) {
-            int got = made(x, ask);
-            int want = model.answer(ask);
-            if (got != want) {
-                wrong++;
-                System.out.println("object " + seed + ", after call " + call + " " + java.util.Arrays.toString(ask)
-                    + " answered " + got + ", due is " + want);
-                return;
+                System.out.println("object " + seed + ", call " + calls + " " + Arrays.toString(call) + " answered "
+                    + got + ", due is " + want);
+                calls = MOST_CALLS;
             }
         }
     }

@@ -1,271 +1,151 @@
-/** Promises 7 to 10: THROWS, TRY, the CAUSE, the bounds of METHODS, ACTS and EVENTS. */
+/** The THROWS 0 .. 2 and 7 .. 10, sentence by sentence; 3 .. 6 are in WorkTest. */
 public final class ThrowTest {
     public static void main(String[] args) {
-        thrown();
-        caughtByNumber();
-        caughtByNone();
-        guardedEnd();
-        tryWithinTry();
-        tryCutByTheOneAround();
-        tryBehindTheEnd();
-        innerAheadOfOuter();
-        nextGuardedOnly();
-        causeIsOfTheEnd();
-        causeOfTwo();
-        methodsWithin();
-        methodWithinCaught();
-        startWithin();
-        callWantsAheadOfDepth();
-        work();
-        workOfExactlyEighty();
-        workInAStart();
-        events();
-        logs();
-        count();
+        hold();
         Due.end();
     }
 
-    private static void thrown() {
-        for (int t = 0; t < 3; t++) {
+    static void hold() {
+        Sentence.holds(Sentence.ACTS, "9 THROW a (0 .. 2).", ThrowTest::throwAct);
+        Sentence.holds(Sentence.ACTS, "THROWS: 0 .. 2 by THROW.", ThrowTest::byThrow);
+        Sentence.holds(Sentence.ACTS, "7 a START failed by 0 .. 6", ThrowTest::startFailed);
+        Sentence.holds(Sentence.ACTS, "(its CAUSE).", ThrowTest::itsCause);
+        Sentence.holds(Sentence.ACTS, "8 of one whose START FAILED.", ThrowTest::failedBefore);
+        Sentence.holds(Sentence.ACTS, "9 a METHOD (of a CALL behind what that WANTS,", ThrowTest::callBehindItsWant);
+        Sentence.holds(Sentence.ACTS, "of a START)", ThrowTest::startWithin);
+        Sentence.holds(Sentence.ACTS, "of a START)", ThrowTest::parentsAreNotWithin);
+        Sentence.holds(Sentence.ACTS, "that would lie within 8 others that are worked.", ThrowTest::withinEight);
+        Sentence.holds(Sentence.ACTS, "that would lie within 8 others that are worked.", ThrowTest::notThoseThatEnded);
+        Sentence.holds(Sentence.ACTS, "10 WORK: the 81st ACT of a run()", ThrowTest::theEightyFirst);
+        Sentence.holds(Sentence.ACTS, "(each that begins counts,", ThrowTest::eachThatBegins);
+        Sentence.holds(Sentence.ACTS, "TRY too);", ThrowTest::tryCounts);
+        Sentence.holds(Sentence.ACTS, "nothing catches it.", ThrowTest::nothingCatchesWork);
+    }
+
+    private static void throwAct() {
+        for (int a : Due.WILD) {
             ClassStarts x = Due.classes(1);
-            Due.act(x, 0, 1, Due.THROW, t);
+            boolean fits = a >= 0 && a <= 2;
+            Due.due("THROW " + a, x.act(0, 1, Due.THROW, a, 0, 0), fits ? 1 : Due.OUTSIDE);
+            Due.due("run(0, 1)", x.run(0, 1), fits ? a : Due.NONE);
+        }
+    }
+
+    private static void byThrow() {
+        for (int a = 0; a <= 2; a++) {
+            ClassStarts x = Due.classes(1);
+            Due.act(x, 0, 1, Due.THROW, a);
             Due.act(x, 0, 1, Due.LOG, 1);
-            Due.due("run", x.run(0, 1), t);
-            Due.due("cause() of a METHOD's throw", x.cause(), Due.NONE);
-            Due.dueEvents("thrown " + t, x, 0, 0, 1, 0);
+            Due.due("run(0, 1)", x.run(0, 1), a);
+            Due.due("cause()", x.cause(), Due.NONE);
+            Due.dueEvents("thrown " + a, x, 0, 0, 1, 0);
             Due.due("ACTS", x.count(2), 1);
             Due.due("throws", x.count(3), 1);
             Due.due("state(0)", x.state(0), Due.DONE);
         }
     }
 
-    /** METHOD 1 of 0, one ACT of which is GUARDED and throws this. */
-    private static ClassStarts guarded(int by, int thrown) {
-        ClassStarts x = Due.classes(2);
-        Due.act(x, 0, 1, Due.TRY, 1, by);
+    /** The START of this one throws 0 .. 6. */
+    private static void throwInStart(ClassStarts x, int kind, int thrown) {
         switch (thrown) {
-            case 3: Due.act(x, 0, 1, Due.DIV, 0, 0, 0); break;
-            case 4: Due.act(x, 0, 1, Due.IN, 0, 0); break;
-            case 5: Due.act(x, 0, 1, Due.OUT, 0, 0); Due.act(x, 0, 0, Due.ROW, 0); break;
-            case 6: Due.act(x, 0, 1, Due.ROW, 0); Due.act(x, 0, 0, Due.SET, 0, -1); break;
-            case 7: Due.act(x, 0, 1, Due.MAKE, 1); Due.act(x, 1, 0, Due.THROW, 2); break;
-            case 8: Due.act(x, 0, 1, Due.MAKE, 1); Due.act(x, 1, 0, Due.THROW, 2); x.run(1, 1); break;
-            default: Due.act(x, 0, 1, Due.THROW, thrown); break;
+            case 3: Due.act(x, kind, 0, Due.DIV, 0, kind, 1); break;
+            case 4: Due.act(x, kind, 0, Due.IN, 0, 0); break;
+            case 5: Due.act(x, kind, 0, Due.ROW, 0); Due.act(x, kind, 0, Due.OUT, 0, 0); break;
+            case 6: Due.act(x, kind, 0, Due.SET, 0, -1); Due.act(x, kind, 0, Due.ROW, 0); break;
+            default: Due.act(x, kind, 0, Due.THROW, thrown); break;
         }
-        Due.act(x, 0, 1, Due.LOG, 77);
-        return x;
     }
 
-    private static void caughtByNumber() {
-        for (int by = Due.NONE; by <= 9; by++) {
-            for (int t = 0; t <= 8; t++) {
-                ClassStarts x = guarded(by, t);
-                boolean caught = by == t || by == Due.NONE;
-                String name = t + " by " + by;
-                Due.due(name, x.run(0, 1), caught ? Due.NONE : t);
-                Due.due(name + ": ACTS behind", x.event(x.count(0) - 1, 0) == 3 ? 1 : 0, caught ? 1 : 0);
-                Due.due(name + ": throws", x.count(3), t == 7 ? 2 : 1);
-                Due.due(name + ": cause()", x.cause(), t == 7 && !caught ? 2 : Due.NONE);
+    private static void startFailed() {
+        for (int thrown = 0; thrown <= 6; thrown++) {
+            ClassStarts x = Due.kinds("CF");
+            for (int kind = 0; kind < 2; kind++) {
+                throwInStart(x, kind, thrown);
+                Due.due("run(" + kind + ", 1), " + thrown + " in the START", x.run(kind, 1), 7);
+                Due.due("state(" + kind + ")", x.state(kind), Due.FAILED);
+                Due.due("throws", x.count(3), 2);
             }
         }
-    }
-
-    private static void caughtByNone() {
-        ClassStarts x = Due.classes(1);
-        Due.act(x, 0, 1, Due.TRY, 3, Due.NONE);
-        Due.act(x, 0, 1, Due.CALL, 0, 2);
-        Due.act(x, 0, 1, Due.LOG, 1);
-        Due.act(x, 0, 1, Due.LOG, 2);
-        Due.act(x, 0, 1, Due.LOG, 3);
-        Due.act(x, 0, 2, Due.LOG, 4);
-        Due.act(x, 0, 2, Due.THROW, 2);
-        Due.act(x, 0, 2, Due.LOG, 5);
-        Due.due("run", x.run(0, 1), Due.NONE);
-        Due.dueEvents("a CALL's throw ends the GUARDED ones", x, 0, 0, 1, 0, 4, 2, 3, 4, 3, 3);
-        Due.due("ACTS", x.count(2), 5);
-    }
-
-    private static void guardedEnd() {
-        for (int length = 1; length <= 9; length++) {
-            ClassStarts x = Due.classes(1);
-            Due.act(x, 0, 1, Due.TRY, length, 1);
-            Due.act(x, 0, 1, Due.THROW, 1);
-            for (int i = 2; i < 10; i++) {
-                Due.act(x, 0, 1, Due.LOG, i);
-            }
-            Due.due("run", x.run(0, 1), Due.NONE);
-            Due.due("ACTS behind a TRY of " + length, x.count(2), 11 - length);
-            Due.due("the first of them", x.event(2, 1), length == 9 ? 0 : length + 1);
-        }
-    }
-
-    private static void tryWithinTry() {
-        ClassStarts x = Due.classes(1);
-        Due.act(x, 0, 1, Due.TRY, 5, 1);
-        Due.act(x, 0, 1, Due.TRY, 2, 0);
-        Due.act(x, 0, 1, Due.THROW, 0);
-        Due.act(x, 0, 1, Due.LOG, 1);
-        Due.act(x, 0, 1, Due.LOG, 2);
-        Due.act(x, 0, 1, Due.THROW, 1);
-        Due.act(x, 0, 1, Due.LOG, 3);
-        Due.act(x, 0, 1, Due.THROW, 0);
-        Due.due("run", x.run(0, 1), 0);
-        Due.dueEvents("a TRY within a TRY", x, 0, 0, 1, 0, 3, 2, 3, 3);
-        Due.due("throws", x.count(3), 3);
-    }
-
-    private static void tryCutByTheOneAround() {
-        ClassStarts x = Due.classes(1);
-        Due.act(x, 0, 1, Due.TRY, 2, 1);
-        Due.act(x, 0, 1, Due.TRY, 9, 0);
-        Due.act(x, 0, 1, Due.THROW, 0);
-        Due.act(x, 0, 1, Due.LOG, 1);
-        Due.act(x, 0, 1, Due.THROW, 0);
-        Due.due("run: behind both", x.run(0, 1), 0);
-        Due.dueEvents("a TRY ends with the one around", x, 0, 0, 1, 0, 3, 1);
-        ClassStarts y = Due.classes(1);
-        Due.act(y, 0, 1, Due.TRY, 4, 1);
-        Due.act(y, 0, 1, Due.TRY, 2, 2);
-        Due.act(y, 0, 1, Due.TRY, 9, 0);
-        Due.act(y, 0, 1, Due.THROW, 0);
-        Due.act(y, 0, 1, Due.LOG, 1);
-        Due.act(y, 0, 1, Due.THROW, 1);
-        Due.due("run: of three the nearest cuts", y.run(0, 1), 1);
-        Due.dueEvents("three", y, 0, 0, 1, 0, 3, 1);
+        ClassStarts y = Due.kinds("CPP");
+        throwInStart(y, 0, 6);
+        Due.due("run(2, 1), the first of all FAILS", y.run(2, 1), 7);
+        Due.due("throws, 7 becomes no other one", y.count(3), 2);
         ClassStarts z = Due.classes(1);
-        Due.act(z, 0, 1, Due.TRY, 1, 1);
-        Due.act(z, 0, 1, Due.TRY, 3, 0);
-        Due.act(z, 0, 1, Due.THROW, 0);
-        Due.due("run: nothing is left to guard", z.run(0, 1), 0);
+        throwInStart(z, 0, 0);
+        Due.due("run(0, 1)", z.run(0, 1), 7);
+        z.again();
+        Due.due("run(0, 1) after again()", z.run(0, 1), 7);
     }
 
-    private static void tryBehindTheEnd() {
-        ClassStarts x = Due.classes(1);
-        Due.act(x, 0, 1, Due.LOG, 1);
-        Due.act(x, 0, 1, Due.TRY, 9, 2);
-        Due.act(x, 0, 1, Due.THROW, 2);
-        Due.act(x, 0, 1, Due.LOG, 2);
-        Due.due("run: as far as there are", x.run(0, 1), Due.NONE);
-        Due.dueEvents("as far as there are", x, 0, 0, 1, 0, 3, 1);
-        ClassStarts y = Due.classes(1);
-        Due.act(y, 0, 2, Due.TRY, 9, 0);
-        Due.act(y, 0, 1, Due.CALL, 0, 2);
-        Due.act(y, 0, 1, Due.THROW, 0);
-        Due.due("run: a TRY guards its own METHOD alone", y.run(0, 1), 0);
-        Due.due("ACTS", y.count(2), 3);
-    }
-
-    private static void innerAheadOfOuter() {
-        ClassStarts x = Due.classes(1);
-        Due.act(x, 0, 1, Due.TRY, 4, Due.NONE);
-        Due.act(x, 0, 1, Due.TRY, 1, 2);
-        Due.act(x, 0, 1, Due.THROW, 2);
-        Due.act(x, 0, 1, Due.LOG, 1);
-        Due.act(x, 0, 1, Due.LOG, 2);
-        Due.act(x, 0, 1, Due.LOG, 3);
-        Due.due("run", x.run(0, 1), Due.NONE);
-        Due.dueEvents("caught within", x, 0, 0, 1, 0, 3, 1, 3, 2, 3, 3);
-    }
-
-    private static void nextGuardedOnly() {
-        ClassStarts x = Due.classes(1);
-        Due.act(x, 0, 1, Due.TRY, 1, 0);
-        Due.act(x, 0, 1, Due.LOG, 1);
-        Due.act(x, 0, 1, Due.THROW, 0);
-        Due.due("run: behind the GUARDED ones", x.run(0, 1), 0);
-        ClassStarts y = Due.classes(1);
-        Due.act(y, 0, 1, Due.TRY, 1, 0);
-        Due.act(y, 0, 1, Due.THROW, 0);
-        Due.act(y, 0, 1, Due.TRY, 1, 1);
-        Due.act(y, 0, 1, Due.THROW, 1);
-        Due.act(y, 0, 1, Due.THROW, 2);
-        Due.due("run: one TRY after the other", y.run(0, 1), 2);
-        Due.due("throws", y.count(3), 3);
-    }
-
-    private static void causeIsOfTheEnd() {
-        ClassStarts x = Due.classes(3);
-        Due.act(x, 1, 0, Due.THROW, 1);
-        Due.act(x, 0, 1, Due.TRY, 1, 7);
-        Due.act(x, 0, 1, Due.MAKE, 1);
-        Due.act(x, 0, 2, Due.THROW, 0);
-        Due.act(x, 2, 0, Due.MAKE, 0);
-        Due.act(x, 2, 0, Due.CALL, 0, 2);
-        Due.due("run(0, 1)", x.run(0, 1), Due.NONE);
-        Due.due("cause(), 7 was caught", x.cause(), Due.NONE);
-        Due.due("run(1, 1)", x.run(1, 1), 8);
-        Due.due("cause() of 8", x.cause(), Due.NONE);
-        Due.due("run(2, 1)", x.run(2, 1), 7);
-        Due.due("cause(), of a CALL in a START", x.cause(), 0);
-        Due.due("a refused run()", x.run(9, 1), Due.UNKNOWN);
-        Due.due("cause() stays", x.cause(), 0);
-        x.again();
-        Due.due("cause() after again()", x.cause(), 0);
-        Due.due("run(0, 3)", x.run(0, 3), Due.NONE);
-        Due.due("cause() of a later run()", x.cause(), Due.NONE);
-    }
-
-    private static void causeOfTwo() {
-        ClassStarts x = Due.classes(3);
-        Due.act(x, 1, 0, Due.THROW, 1);
-        Due.act(x, 2, 0, Due.IN, 0, 0);
-        Due.act(x, 0, 1, Due.TRY, 1, 7);
-        Due.act(x, 0, 1, Due.MAKE, 1);
-        Due.act(x, 0, 1, Due.MAKE, 2);
-        Due.due("run(0, 1)", x.run(0, 1), 7);
-        Due.due("cause() of the one that ended it", x.cause(), 4);
-        Due.due("throws, those that become 7 twice", x.count(3), 4);
-    }
-
-    /** METHODS that CALL each the next one: so many of them. */
-    private static ClassStarts chain(int methods) {
-        ClassStarts x = Due.classes((methods + 2) / 3);
-        for (int i = 0; i + 1 < methods; i++) {
-            Due.act(x, i / 3, i % 3 + 1, Due.CALL, (i + 1) / 3, (i + 1) % 3 + 1);
+    private static void itsCause() {
+        for (int thrown = 0; thrown <= 6; thrown++) {
+            ClassStarts x = Due.kinds("CPC");
+            throwInStart(x, 0, thrown);
+            Due.act(x, 2, 0, Due.CALL, 1, 1);
+            Due.due("run(2, 1)", x.run(2, 1), 7);
+            Due.due("cause(), through three STARTS", x.cause(), thrown);
         }
-        return x;
     }
 
-    private static void methodsWithin() {
-        ClassStarts eight = chain(8);
-        Due.due("eight METHODS, one within the other", eight.run(0, 1), Due.NONE);
-        Due.due("ACTS", eight.count(2), 7);
-        ClassStarts nine = chain(9);
-        Due.due("nine METHODS, one within the other", nine.run(0, 1), 9);
-        Due.due("ACTS", nine.count(2), 8);
-        Due.due("throws", nine.count(3), 1);
-        Due.dueEvents("nine", nine, 0, 0, 1, 0, 4, 2, 4, 3, 0, 1, 1, 1, 4, 11, 4, 12, 4, 13, 0, 2, 1, 2, 4, 21, 4, 22);
+    private static void failedBefore() {
+        int[][] wants = {{Due.ADD, 0, 0, 0}, {Due.PUT, 0, 0, 0}, {Due.DIV, 0, 0, 0}, {Due.CALL, 0, 1, 0},
+            {Due.MAKE, 0, 0, 0}};
+        for (int[] a : wants) {
+            ClassStarts x = Due.classes(2);
+            throwInStart(x, 0, 0);
+            Due.act(x, 1, 1, a[0], a[1], a[2], a[3]);
+            Due.due("run(0, 1)", x.run(0, 1), 7);
+            for (int times = 0; times < 2; times++) {
+                Due.due("run(1, 1), ACT " + a[0], x.run(1, 1), 8);
+                Due.due("cause()", x.cause(), Due.NONE);
+                Due.due("throws", x.count(3), 1);
+                Due.due("run(0, 1)", x.run(0, 1), 8);
+            }
+        }
+        ClassStarts y = Due.kinds("CPF");
+        Due.act(y, 2, 0, Due.MAKE, 0);
+        throwInStart(y, 0, 0);
+        y.run(0, 1);
+        Due.due("run(1, 1), of a PARENT that FAILED", y.run(1, 1), 8);
+        Due.due("state(1)", y.state(1), Due.FAILED);
+        Due.due("throws, 8 becomes no 7", y.count(3), 1);
+        Due.due("run(2, 1), a START that WANTS it", y.run(2, 1), 8);
+        Due.due("state(2)", y.state(2), Due.FAILED);
     }
 
-    private static void methodWithinCaught() {
-        ClassStarts x = Due.classes(1);
-        Due.act(x, 0, 1, Due.TRY, 1, 9);
-        Due.act(x, 0, 1, Due.CALL, 0, 1);
-        Due.act(x, 0, 1, Due.LOG, 5);
-        Due.due("run", x.run(0, 1), Due.NONE);
-        Due.due("ACTS", x.count(2), 24);
-        Due.due("throws", x.count(3), 1);
-        Due.due("EVENTS", x.count(0), 2 + 7 + 8);
-    }
-
-    /** At the eighth METHOD this ACT; 3 has ACTS in its METHOD 0 and a PARENT, 4 has none. */
+    /** Eight METHODS, one within the other, and this ACT in the eighth; 3 and its child 4 are not in them. */
     private static ClassStarts deep(int sort, int a, int b) {
-        ClassStarts x = Due.classes(4);
+        ClassStarts x = Due.chain(8);
+        x.made(Due.NONE);
         x.made(3);
-        for (int i = 0; i < 7; i++) {
-            Due.act(x, i / 3, i % 3 + 1, Due.CALL, (i + 1) / 3, (i + 1) % 3 + 1);
-        }
-        Due.act(x, 2, 2, sort, a, b, 0);
+        Due.act(x, 2, 2, sort, a, b);
         return x;
+    }
+
+    private static void callBehindItsWant() {
+        ClassStarts done = deep(Due.CALL, 3, 1);
+        Due.due("run(3, 1)", done.run(3, 1), Due.NONE);
+        Due.due("a CALL of one that is DONE", done.run(0, 1), 9);
+        Due.due("state(3)", done.state(3), Due.DONE);
+        Due.due("throws", done.count(3), 1);
+        Due.due("the last EVENT is the 8th METHOD's", done.event(done.count(0) - 1, 1), 22);
+        ClassStarts failed = deep(Due.CALL, 3, 1);
+        Due.act(failed, 3, 0, Due.THROW, 0);
+        failed.run(3, 1);
+        Due.due("a CALL of one that FAILED", failed.run(0, 1), 8);
+        ClassStarts not = deep(Due.CALL, 3, 1);
+        Due.due("a CALL of one that is NOT", not.run(0, 1), 9);
+        Due.due("state(3), its START was begun", not.state(3), Due.FAILED);
+        Due.due("throws", not.count(3), 1);
     }
 
     private static void startWithin() {
         ClassStarts x = deep(Due.MAKE, 3, 0);
         Due.act(x, 3, 0, Due.LOG, 5);
         Due.due("a START within 8 METHODS", x.run(0, 1), 9);
-        Due.due("cause() of 9", x.cause(), Due.NONE);
+        Due.due("cause()", x.cause(), Due.NONE);
         Due.due("state(3)", x.state(3), Due.FAILED);
-        Due.due("throws", x.count(3), 1);
+        Due.due("throws, 9 becomes no 7", x.count(3), 1);
         int n = x.count(0);
         Due.due("it began", x.event(n - 2, 0) * 100 + x.event(n - 2, 1), 3);
         Due.due("it FAILED", x.event(n - 1, 0) * 100 + x.event(n - 1, 1), 203);
@@ -273,126 +153,146 @@ public final class ThrowTest {
         Due.due("a START of no ACTS within 8 METHODS", y.run(0, 1), 9);
         Due.due("state(3), its PARENT's", y.state(3), Due.FAILED);
         Due.due("state(4)", y.state(4), Due.FAILED);
-        ClassStarts z = chain(7);
+        ClassStarts z = Due.chain(7);
         z.made(Due.NONE);
         Due.act(z, 2, 1, Due.MAKE, 3);
         Due.act(z, 3, 0, Due.LOG, 5);
         Due.due("a START within 7 METHODS", z.run(0, 1), Due.NONE);
         Due.due("state(3)", z.state(3), Due.DONE);
-    }
-
-    private static void callWantsAheadOfDepth() {
-        ClassStarts x = deep(Due.CALL, 3, 1);
-        x.run(3, 1);
-        Due.due("a CALL of one that is DONE within 8", x.run(0, 1), 9);
-        Due.due("state(3)", x.state(3), Due.DONE);
-        ClassStarts y = deep(Due.CALL, 3, 1);
-        Due.act(y, 3, 0, Due.THROW, 0);
-        y.run(3, 1);
-        Due.due("a CALL of one that FAILED within 8", y.run(0, 1), 8);
-        ClassStarts z = deep(Due.CALL, 3, 1);
-        Due.due("a CALL of one that is NOT within 8", z.run(0, 1), 9);
-        Due.due("state(3)", z.state(3), Due.FAILED);
-    }
-
-    /** METHOD 1 works METHOD 2 so often, and that has so many LOGS. */
-    private static ClassStarts busy(int calls, int logs) {
-        ClassStarts x = Due.classes(2);
-        for (int i = 0; i < calls; i++) {
-            Due.act(x, 0, 1, Due.CALL, 0, 2);
+        for (int starts = 7; starts <= 12; starts++) {
+            ClassStarts s = Due.classes(starts);
+            for (int i = 0; i + 1 < starts; i++) {
+                Due.act(s, i, 0, Due.MAKE, i + 1);
+            }
+            Due.due(starts + " STARTS, one within the other", s.run(0, 1), starts <= 8 ? Due.NONE : 9);
+            for (int i = 0; i < starts; i++) {
+                Due.due("state(" + i + ")", s.state(i), starts <= 8 ? Due.DONE : i <= 8 ? Due.FAILED : Due.NOT);
+            }
         }
-        for (int i = 0; i < logs; i++) {
-            Due.act(x, 0, 2, Due.LOG, i);
+    }
+
+    /** A PARENT's METHOD 0 ends before the one below begins, and so does that of a FACE. */
+    private static void parentsAreNotWithin() {
+        ClassStarts x = Due.kinds("CPPPPPPPPPPP");
+        for (int i = 0; i < 12; i++) {
+            Due.act(x, i, 0, Due.LOG, i);
         }
-        return x;
+        Due.due("twelve, each the PARENT of the next", x.run(11, 1), Due.NONE);
+        Due.due("ACTS", x.count(2), 12);
+        ClassStarts y = Due.kinds("FFFFCPPPPC");
+        for (int i = 1; i < 4; i++) {
+            y.bears(i, i - 1);
+        }
+        y.bears(8, 3);
+        Due.act(y, 9, 1, Due.CALL, 9, 2);
+        Due.act(y, 9, 2, Due.CALL, 9, 3);
+        Due.act(y, 9, 3, Due.MAKE, 8);
+        Due.due("five CLASSES and four FACES in a METHOD", y.run(9, 1), Due.NONE);
+        Due.due("EVENTS", y.count(0), 2 + 2 + 18);
     }
 
-    private static void work() {
-        ClassStarts x = busy(8, 10);
-        Due.due("88 ACTS", x.run(0, 1), 10);
-        Due.due("ACTS", x.count(2), 80);
-        Due.due("throws, 10 is none", x.count(3), 0);
-        Due.due("cause()", x.cause(), Due.NONE);
-        Due.due("EVENTS", x.count(0), 60);
-        Due.due("state(0)", x.state(0), Due.DONE);
-        Due.due("the next run() has 80 ACTS more", x.run(0, 2), Due.NONE);
-        Due.due("ACTS of that", x.count(2), 10);
-        Due.act(x, 1, 1, Due.TRY, 1, Due.NONE);
-        Due.act(x, 1, 1, Due.CALL, 0, 1);
-        Due.act(x, 1, 1, Due.LOG, 1);
-        Due.due("nothing catches it", x.run(1, 1), 10);
+    private static void withinEight() {
+        for (int methods = 1; methods <= 12; methods++) {
+            ClassStarts x = Due.chain(methods);
+            Due.due(methods + " METHODS, one within the other", x.run(0, 1), methods <= 8 ? Due.NONE : 9);
+            Due.due("ACTS", x.count(2), Math.min(methods - 1, 8));
+            Due.due("throws", x.count(3), methods <= 8 ? 0 : 1);
+        }
+        ClassStarts nine = Due.chain(9);
+        nine.run(0, 1);
+        Due.dueEvents("the 9th is not entered", nine, 0, 0, 1, 0, 4, 2, 4, 3, 0, 1, 1, 1, 4, 11, 4, 12, 4, 13,
+            0, 2, 1, 2, 4, 21, 4, 22);
+        ClassStarts start = Due.chain(8);
+        start.made(Due.NONE);
+        Due.act(start, 3, 0, Due.CALL, 0, 1);
+        Due.due("METHOD 0 of a START is worked too", start.run(3, 1), 9);
     }
 
-    private static void workOfExactlyEighty() {
-        ClassStarts x = busy(8, 9);
+    private static void notThoseThatEnded() {
+        ClassStarts x = Due.chain(8);
+        x.made(Due.NONE);
+        Due.act(x, 3, 1, Due.CALL, 0, 2);
+        Due.act(x, 3, 1, Due.CALL, 0, 2);
+        Due.act(x, 3, 1, Due.TRY, 1, 9);
+        Due.act(x, 3, 1, Due.CALL, 0, 1);
+        Due.act(x, 3, 1, Due.CALL, 0, 2);
+        Due.due("eight METHODS, again and again", x.run(3, 1), Due.NONE);
+        Due.due("throws, one too deep", x.count(3), 1);
+        ClassStarts y = Due.classes(1);
+        Due.act(y, 0, 1, Due.TRY, 1, 9);
+        Due.act(y, 0, 1, Due.CALL, 0, 1);
+        Due.act(y, 0, 1, Due.LOG, 5);
+        Due.due("caught in the eighth", y.run(0, 1), Due.NONE);
+        Due.due("ACTS", y.count(2), 24);
+        Due.due("throws", y.count(3), 1);
+        Due.due("EVENTS", y.count(0), 2 + 7 + 8);
+    }
+
+    private static void theEightyFirst() {
+        ClassStarts x = Due.busy(8, 9);
         Due.due("80 ACTS", x.run(0, 1), Due.NONE);
-        Due.due("ACTS", x.count(2), 80);
+        Due.due("count(2)", x.count(2), 80);
         Due.act(x, 1, 1, Due.CALL, 0, 1);
         Due.due("81 ACTS", x.run(1, 1), 10);
-        ClassStarts y = busy(7, 10);
-        Due.act(y, 0, 3, Due.CALL, 0, 1);
-        for (int i = 0; i < 2; i++) {
-            Due.act(y, 0, 3, Due.LOG, i);
-        }
-        Due.act(y, 0, 3, Due.TRY, 1, Due.NONE);
-        Due.due("81 ACTS, the last a TRY", y.run(0, 3), 10);
-        Due.due("ACTS", y.count(2), 80);
+        Due.due("count(2)", x.count(2), 80);
+        Due.due("the next run() has 80 ACTS of its own", x.run(0, 1), Due.NONE);
+        ClassStarts y = Due.busy(7, 10);
+        Due.act(y, 0, 1, Due.SET, 0, 1);
+        Due.act(y, 0, 1, Due.SET, 1, 1);
+        Due.act(y, 0, 1, Due.SET, 2, 1);
+        Due.due("77 ACTS and 3", y.run(0, 1), Due.NONE);
+        Due.act(y, 1, 0, Due.LOG, 1);
+        Due.act(y, 1, 1, Due.CALL, 0, 1);
+        y.again();
+        Due.due("82 ACTS, one in a START", y.run(1, 1), 10);
+        Due.due("the last one that is worked", y.field(0, 0), 1);
+        Due.due("the 81st does nothing", y.field(0, 1), 0);
+        Due.due("state(0)", y.state(0), Due.DONE);
     }
 
-    private static void workInAStart() {
-        ClassStarts x = busy(8, 10);
-        Due.act(x, 1, 0, Due.CALL, 0, 1);
-        Due.due("81 ACTS in a START", x.run(1, 1), 10);
-        Due.due("state(1)", x.state(1), Due.FAILED);
-        Due.due("cause()", x.cause(), Due.NONE);
-        Due.due("throws", x.count(3), 0);
-        Due.due("run(1, 1)", x.run(1, 1), 8);
-        Due.due("throws", x.count(3), 1);
+    private static void eachThatBegins() {
+        ClassStarts x = Due.busy(7, 10);
+        Due.act(x, 0, 1, Due.TRY, 1, 0);
+        Due.act(x, 0, 1, Due.THROW, 0);
+        Due.act(x, 0, 1, Due.LOG, 1);
+        Due.due("one that throws counts", x.run(0, 1), Due.NONE);
+        Due.due("count(2)", x.count(2), 80);
+        ClassStarts y = Due.busy(8, 10);
+        Due.act(y, 1, 0, Due.CALL, 0, 1);
+        Due.due("those that a START works count", y.run(1, 1), 10);
+        Due.due("state(1)", y.state(1), Due.FAILED);
+        Due.due("cause(), 10 becomes no 7", y.cause(), Due.NONE);
+        Due.due("throws", y.count(3), 0);
+        Due.due("run(1, 1)", y.run(1, 1), 8);
+        ClassStarts z = Due.classes(1);
+        Due.act(z, 0, 1, Due.TRY, 3, 0);
+        Due.act(z, 0, 1, Due.THROW, 0);
+        Due.logs(z, 0, 1, 1, 5);
+        Due.due("run(0, 1)", z.run(0, 1), Due.NONE);
+        Due.due("those that never begin do not count", z.count(2), 5);
     }
 
-    private static void events() {
-        ClassStarts x = busy(6, 8);
-        Due.act(x, 0, 1, Due.LOG, 900);
-        Due.act(x, 0, 1, Due.LOG, 901);
-        Due.act(x, 0, 1, Due.LOG, 902);
-        Due.act(x, 0, 1, Due.LOG, 903);
-        Due.due("run", x.run(0, 1), Due.NONE);
-        Due.due("EVENTS, exactly 60", x.count(0), 60);
-        Due.due("the last one", x.event(59, 1), 903);
-        Due.due("none behind", x.event(60, 0), 0);
-        Due.act(x, 1, 1, Due.LOG, 1);
+    private static void tryCounts() {
+        ClassStarts x = Due.busy(7, 10);
+        Due.logs(x, 0, 1, 1, 2);
+        Due.act(x, 0, 1, Due.TRY, 1, Due.NONE);
+        Due.due("the 80th is a TRY", x.run(0, 1), Due.NONE);
+        Due.due("count(2)", x.count(2), 80);
         Due.act(x, 1, 1, Due.CALL, 0, 1);
-        Due.due("run of more", x.run(1, 1), Due.NONE);
-        Due.due("EVENTS, the first 60", x.count(0), 60);
-        Due.due("the last one of these", x.event(59, 1), 901);
-        for (int what : Due.WILD) {
-            if (what != 0 && what != 1) {
-                Due.due("event(0, " + what + ")", x.event(0, what), 0);
-                Due.due("event(2, " + what + ")", x.event(2, what), 0);
-            }
-            if (what < 0 || what > 59) {
-                Due.due("event(" + what + ", 0)", x.event(what, 0), 0);
-                Due.due("event(" + what + ", 1)", x.event(what, 1), 0);
-            }
-        }
+        Due.due("the 81st is a TRY", x.run(1, 1), 10);
+        Due.due("count(2)", x.count(2), 80);
     }
 
-    private static void logs() {
-        ClassStarts x = Due.classes(12);
-        Due.act(x, 0, 1, Due.LOG, Integer.MIN_VALUE);
-        Due.act(x, 0, 1, Due.LOG, Integer.MAX_VALUE);
-        Due.act(x, 0, 1, Due.CALL, 11, 3);
-        Due.due("run", x.run(0, 1), Due.NONE);
-        Due.dueEvents("numbers of EVENTS", x, 0, 0, 1, 0, 3, Integer.MIN_VALUE, 3, Integer.MAX_VALUE, 0, 11, 1, 11,
-            4, 113);
-        x.again();
-        Due.due("EVENTS after again()", x.count(0), 7);
-    }
-
-    private static void count() {
-        ClassStarts x = Due.classes(1);
-        for (int what : Due.WILD) {
-            Due.due("count(" + what + ")", x.count(what), what >= 0 && what <= 3 ? 0 : Due.OUTSIDE);
+    private static void nothingCatchesWork() {
+        for (int by = Due.NONE; by <= 9; by++) {
+            ClassStarts x = Due.busy(8, 10);
+            Due.act(x, 1, 1, Due.TRY, 9, by);
+            Due.act(x, 1, 1, Due.TRY, 8, Due.NONE);
+            Due.act(x, 1, 1, Due.CALL, 0, 1);
+            Due.act(x, 1, 1, Due.SET, 0, 1);
+            Due.due("10 in a TRY by " + by, x.run(1, 1), 10);
+            Due.due("count(2)", x.count(2), 80);
+            Due.due("nothing is worked behind it", x.field(1, 0), 0);
         }
     }
 }
