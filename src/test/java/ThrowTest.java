@@ -189,6 +189,15 @@ public final class ThrowTest {
         Due.act(y, 9, 3, Due.MAKE, 8);
         Due.due("five CLASSES and four FACES in a METHOD", y.run(9, 1), Due.NONE);
         Due.due("EVENTS", y.count(0), 2 + 2 + 18);
+        ClassStarts z = Due.chain(7);
+        z.face(true);
+        z.made(Due.NONE);
+        z.made(4);
+        z.bears(4, 3);
+        Due.act(z, 2, 1, Due.MAKE, 5);
+        Due.due("a PARENT and its FACE within 7 METHODS", z.run(0, 1), Due.NONE);
+        Due.due("state(3), of the FACE", z.state(3), Due.DONE);
+        Due.due("state(5)", z.state(5), Due.DONE);
     }
 
     private static void withinEight() {

@@ -190,10 +190,8 @@ public final class TryTest {
             dueCaught(Due.NONE, thrown, true);
         }
         ClassStarts x = Due.busy(8, 10);
-        Due.act(x, 1, 1, Due.TRY, 2, Due.NONE);
+        Due.act(x, 1, 1, Due.TRY, 9, Due.NONE);
         Due.act(x, 1, 1, Due.CALL, 0, 1);
-        Due.act(x, 1, 1, Due.LOG, 1);
-        Due.act(x, 1, 1, Due.LOG, 2);
         Due.due("10 by NONE", x.run(1, 1), 10);
     }
 
