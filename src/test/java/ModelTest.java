@@ -30,7 +30,7 @@ public final class ModelTest {
         Pair pair = new Pair(seed);
         Model model = pair.model;
         int wild = random.nextInt(4) == 0 ? 6 : 60;
-        int kinds = 2 + random.nextInt(11);
+        int kinds = 2 + random.nextInt(12);
         int setUp = 15 + random.nextInt(130);
         often = seed % 2 == 0 ? ROUGH : GENTLE;
         for (int i = 0; i < CALLS; i++) {
@@ -49,12 +49,14 @@ public final class ModelTest {
     /** A question that most likely has another answer than 0. */
     private static int[] ofTheLatestRun(Random random, Model model) {
         int kind = random.nextInt(model.kinds.size());
-        switch (random.nextInt(5)) {
+        int items = model.kinds.get(kind).row == null ? 0 : model.kinds.get(kind).row.length;
+        switch (items > 0 ? 5 : random.nextInt(5)) {
             case 0: return new int[] {6};
             case 1: return new int[] {7, random.nextInt(4)};
             case 2: return new int[] {8, random.nextInt(model.events.size() + 1), random.nextInt(2)};
             case 3: return new int[] {10, kind, random.nextInt(4)};
-            default: return random.nextBoolean() ? new int[] {9, kind} : new int[] {11, kind};
+            case 4: return random.nextBoolean() ? new int[] {9, kind} : new int[] {11, kind};
+            default: return new int[] {12, kind, random.nextInt(items)};
         }
     }
 
