@@ -26,6 +26,7 @@ public final class FaceTest {
 
     public static void main(String[] args) throws Exception {
         constants();
+        asInTheDocument();
         members();
         classesInside();
         shapes();
@@ -39,6 +40,26 @@ public final class FaceTest {
         Due.due("OUTSIDE", ClassStarts.OUTSIDE, -3);
         Due.due("STATE", ClassStarts.STATE, -4);
         Due.due("ROOM", ClassStarts.ROOM, -5);
+    }
+
+    /** Each row of the document's face stands in the source, its names too. */
+    private static void asInTheDocument() throws Exception {
+        Path document = Path.of("../shared/DOC.md");
+        if (!Files.isRegularFile(document)) {
+            System.out.println("there is no " + document + ": the face is not compared with it");
+            return;
+        }
+        Due.about("The public face: ");
+        String source = Files.readString(Path.of("src/main/java/ClassStarts.java"));
+        int rows = 0;
+        for (String line : Files.readAllLines(document)) {
+            if (line.trim().startsWith("public ")) {
+                String words = line.trim().replaceFirst("\\);$", ") {");
+                Due.due("the source has '" + words + "'", source.contains(words) ? 1 : 0, 1);
+                rows++;
+            }
+        }
+        Due.due("rows: the class, its constants, its constructor, its methods", rows, 3 + FACE.length);
     }
 
     private static void members() {
